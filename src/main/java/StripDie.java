@@ -18,7 +18,6 @@ public final class StripDie {
     private static final int DRIFT = 2;
     private static final int CATCH = 3;
     private static final int TOLERANCE = 4;
-    private static final int SETTINGS = 5;
 
     private static final int KIND = 0;
     private static final int FIRST_COLUMN = 1;
@@ -47,7 +46,9 @@ public final class StripDie {
     private static final int MOST_DIGITS = 3;
 
     private final State now;
+    // The saved states go round: the oldest one's object is used again, so that a save makes none.
     private final State[] saved;
+    private int oldestSaved;
     private int savedStates;
     private final Press trial;
     private final Planner planner;
@@ -59,7 +60,6 @@ public final class StripDie {
         for (int i = 0; i < saved.length; i++) {
             saved[i] = new State();
         }
-        savedStates = 0;
         trial = new Press();
         planner = new Planner();
         text = new CommandText();
@@ -424,29 +424,21 @@ public final class StripDie {
         now.press.startOver();
     }
 
-    private State savedState(int index) {
+    private State savedState(int age) {
+        int index = (oldestSaved + age) % MOST_SAVED;
         return index >= 0 && index < saved.length ? saved[index] : null;
     }
 
     private void save() {
         if (savedStates >= MOST_SAVED) {
-            forgetOldest();
+            oldestSaved = (oldestSaved + 1) % MOST_SAVED;
+            savedStates--;
         }
         State free = savedState(savedStates);
         if (free != null) {
             free.copyFrom(now);
             savedStates++;
         }
-    }
-
-    // The object of the oldest state is used again, so that a save makes none.
-    private void forgetOldest() {
-        State oldest = saved[0];
-        for (int i = 1; i < saved.length; i++) {
-            saved[i - 1] = saved[i];
-        }
-        saved[saved.length - 1] = oldest;
-        savedStates = saved.length - 1;
     }
 
     /** Carries out the command that was read; false, and nothing done, if its method would throw. */
@@ -574,17 +566,9 @@ public final class StripDie {
         long linkMarks;
         int operations;
         int pilots;
-        final int[] settings = new int[SETTINGS];
+        final int[] settings = {30, 0, 1, 5, 2};
         final int[] facts = new int[MOST_OPERATIONS * FACTS];
         final long[] cells = new long[MOST_OPERATIONS];
-
-        Die() {
-            settings[LIMIT] = 30;
-            settings[GAP] = 0;
-            settings[DRIFT] = 1;
-            settings[CATCH] = 5;
-            settings[TOLERANCE] = 2;
-        }
 
         void copyFrom(Die other) {
             columns = other.columns;
@@ -941,10 +925,6 @@ public final class StripDie {
             return isIn(pitches, place);
         }
 
-        boolean isSpoiled(int place) {
-            return isIn(spoiled, place);
-        }
-
         long cellsAt(int place) {
             return place >= 0 && place < cells.length ? cells[place] : 0L;
         }
@@ -972,7 +952,7 @@ public final class StripDie {
                 case 1:
                     return offsetAt(place);
                 case 2:
-                    return isSpoiled(place) ? 1 : 0;
+                    return isIn(spoiled, place) ? 1 : 0;
                 default:
                     return Long.bitCount(cellsAt(place));
             }
@@ -1029,7 +1009,8 @@ public final class StripDie {
             long waste = die.wasteCells();
             for (int s = die.planStations(); s < PLACES; s++) {
                 if (hasPitch(s)) {
-                    if ((cellsAt(s) & (part | waste)) == part && isFinished(die, s)) {
+                    boolean rightCells = (cellsAt(s) & (part | waste)) == part;
+                    if (rightCells && hasAllBends(die, s) && !isIn(spoiled, s)) {
                         goodParts++;
                     } else {
                         badParts++;
@@ -1040,13 +1021,13 @@ public final class StripDie {
             }
         }
 
-        private boolean isFinished(Die die, int place) {
+        private boolean hasAllBends(Die die, int place) {
             for (int o = 0; o < die.operations; o++) {
                 if (die.fact(o, KIND) == BEND && !isIn(bendsAt(place), o)) {
                     return false;
                 }
             }
-            return !isSpoiled(place);
+            return true;
         }
 
         private void catchDrift(Die die) {

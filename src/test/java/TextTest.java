@@ -183,6 +183,7 @@ public final class TextTest {
             "pitch 22222 2;", "bend 1 1;", "bend 1 1 1 1;", "place 1;", "pilot;", "part 1 1 1;", "part 1 1 1 1",
             "part 1 1 1 1 1;", "link 1 1 1;", "punch 1 1 1;", "plan; plan", "plan plan;", "plan;\n", "stroke 1\n;",
             "stroke\t1;", "plan;\u0000", "plan\u007f", "p", " pl an;",
+            "planz;", "plana;", "plan`;", "plan{;", "stroke 1/;", "stroke 1:;", "stroke /;", "stroke 09 9;",
         };
         int[] faults = {
             0, 0, 0, 0, 1, 0, 5, 5,
@@ -193,6 +194,7 @@ public final class TextTest {
             9, 8, 11, 7, 5, 10, 12,
             13, 10, 11, 10, 5, 5, 8,
             6, 5, 4, 0, 1,
+            0, 0, 4, 4, 8, 8, 7, 10,
         };
         check.is("29: faults", texts.length, faults.length);
         for (int i = 0; i < texts.length; i++) {
