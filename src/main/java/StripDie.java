@@ -1074,6 +1074,7 @@ public final class StripDie {
         int limit;
         int gap;
         int bends;
+        int greatestForce;
         final int[] chosen = new int[MOST_OPERATIONS];
         final int[] touching = new int[MOST_OPERATIONS];
         final int[] forces = new int[MOST_OPERATIONS];
@@ -1082,6 +1083,10 @@ public final class StripDie {
         int findBest(Die die) {
             prepare(die);
             limit = die.setting(LIMIT);
+            // Without this, a force that no station can take would be found out plan by plan.
+            if (greatestForce > limit) {
+                return NONE;
+            }
             for (int stations = 0; stations <= STATIONS; stations++) {
                 if (findWithin(stations)) {
                     return stations;
@@ -1093,8 +1098,12 @@ public final class StripDie {
         /** Halves the range: what goes with a limit goes with each greater one. */
         int findLeastLimit(Die die) {
             prepare(die);
-            int low = 1;
-            int high = MOST_LIMIT + 1;
+            limit = MOST_LIMIT;
+            if (!findWithin(STATIONS)) {
+                return NONE;
+            }
+            int low = Math.max(1, greatestForce);
+            int high = MOST_LIMIT;
             for (int step = 0; step < MOST_LIMIT && low < high; step++) {
                 limit = (low + high) / 2;
                 if (findWithin(STATIONS)) {
@@ -1103,7 +1112,7 @@ public final class StripDie {
                     low = limit + 1;
                 }
             }
-            return low <= MOST_LIMIT ? low : NONE;
+            return low;
         }
 
         void putInto(Die die) {
@@ -1120,9 +1129,11 @@ public final class StripDie {
             operations = Math.min(die.operations, MOST_OPERATIONS);
             gap = die.setting(GAP);
             bends = 0;
+            greatestForce = 0;
             for (int o = 0; o < operations && o < touching.length && o < forces.length; o++) {
                 touching[o] = die.touching(o);
                 forces[o] = die.fact(o, FORCE);
+                greatestForce = Math.max(greatestForce, forces[o]);
                 if (die.fact(o, KIND) == BEND) {
                     bends |= 1 << o;
                 }
