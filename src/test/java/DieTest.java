@@ -12,6 +12,7 @@ public final class DieTest {
         promise1();
         promise2();
         promise2WithPress();
+        promise2WithGoodParts();
         promise3();
         promise3InTheCarrier();
         promise4();
@@ -108,6 +109,22 @@ public final class DieTest {
         check.is("2: strokes are back", 4, () -> x.whole(11));
         check.is("2: pitches are back", 3, () -> x.whole(10));
         check.is("2: slugs are back", 4, () -> x.whole(14));
+    }
+
+    private static void promise2WithGoodParts() {
+        StripDie x = new StripDie();
+        x.mark(0, 0, 6, 4, 1);
+        x.stroke();
+        x.stroke();
+        check.is("2: good parts before", 2, () -> x.whole(12));
+        x.begin(6, 4);
+        check.is("2: no good parts then", 0, () -> x.whole(12));
+        check.is("2: no strokes then", 0, () -> x.whole(11));
+        check.is("2: the new die's pitch is bad", 2, () -> x.stroke());
+        check.is("2: one bad part", 1, () -> x.whole(13));
+        x.undo();
+        x.undo();
+        check.is("2: good parts are back", 2, () -> x.whole(12));
     }
 
     private static void promise3() {

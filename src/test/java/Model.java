@@ -182,7 +182,7 @@ final class Model {
         return add(true, x, y, length, 1);
     }
 
-    private int add(boolean bend, int x, int y, int w, int h) {
+    int add(boolean bend, int x, int y, int w, int h) {
         argument(fits(x, y, w, h));
         state(s.ops.size() < 6);
         save();

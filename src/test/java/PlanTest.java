@@ -18,7 +18,12 @@ public final class PlanTest {
         promise22ByForce();
         promise22WithGaps();
         promise22WithoutPlan();
+        promise22FewestFirst();
+        promise22SixOfOneCell();
+        promise22BendsAlone();
+        promise22NoneLeft();
         promise23();
+        promise23AtItsEnds();
         check.end();
     }
 
@@ -269,5 +274,116 @@ public final class PlanTest {
         // The bend leaves the stations 0 to 3 to the five punches.
         check.is("23: two punches of four together", 8, () -> x.leastLimit());
         check.is("23: nothing is saved", 3, () -> x.undo());
+    }
+
+    /** Fewest stations come first, and then the lowest station of operation 0. */
+    private static void promise22FewestFirst() {
+        StripDie x = new StripDie();
+        x.set(0, 4);
+        x.addBend(0, 3, 1);
+        x.addPunch(3, 1, 1, 1);
+        x.addBend(4, 1, 1);
+        // With three stations the first bend could be at 0, the punch at 1 and the other bend at 2.
+        check.is("22: two stations", 2, () -> x.planned(NONE));
+        check.is("22: the first bend is not the lowest", 1, () -> x.planned(0));
+        check.is("22: the punch is", 0, () -> x.planned(1));
+        check.is("22: the other bend", 1, () -> x.planned(2));
+        x.set(0, 5);
+        check.is("22: room for both", 0, () -> x.planned(0));
+        check.is("22: two stations still", 2, () -> x.planned(NONE));
+    }
+
+    private static void promise22SixOfOneCell() {
+        StripDie x = new StripDie();
+        for (int o = 0; o < 6; o++) {
+            x.addPunch(2, 2, 1, 1);
+            final int operations = o + 1;
+            check.is("22: one station each " + o, operations, () -> x.planned(NONE));
+        }
+        for (int o = 0; o < 6; o++) {
+            final int operation = o;
+            check.is("22: in their order " + o, operation, () -> x.planned(operation));
+        }
+        check.is("10: six stations", 6, () -> x.usePlan());
+        check.is("21: no fault", 0, () -> x.planFault());
+        check.is("23: as much as one", 4, () -> x.leastLimit());
+    }
+
+    /** A bend that touches bends, but no punch, waits for no gap. */
+    private static void promise22BendsAlone() {
+        StripDie x = new StripDie();
+        x.set(1, 3);
+        x.addBend(0, 2, 2);
+        x.addBend(2, 2, 2);
+        x.addBend(4, 2, 2);
+        check.is("22: two stations", 2, () -> x.planned(NONE));
+        check.is("22: first", 0, () -> x.planned(0));
+        check.is("22: second", 1, () -> x.planned(1));
+        check.is("22: third", 0, () -> x.planned(2));
+        x.addPunch(5, 3, 1, 1);
+        check.is("22: with a punch that touches one of them", 5, () -> x.planned(NONE));
+        check.is("22: only that one waits", 4, () -> x.planned(2));
+        check.is("22: the others do not", 10, () -> x.planned(0) + 10 * x.planned(1));
+        check.is("22: the punch", 0, () -> x.planned(3));
+    }
+
+    /** Operations that were dropped, or are of another die, count no more. */
+    private static void promise22NoneLeft() {
+        StripDie x = new StripDie();
+        x.addPunch(0, 1, 1, 1);
+        x.addBend(0, 1, 1);
+        x.addPunch(0, 0, 6, 4);
+        x.setStation(0, 0);
+        x.setStation(1, 1);
+        x.setStation(2, 7);
+        x.set(0, 10);
+        check.is("22: 20 is above 10", NONE, () -> x.planned(NONE));
+        x.dropOperation(2);
+        check.is("22: the greatest force is gone", 2, () -> x.planned(NONE));
+        check.is("23: for the limit, too", 4, () -> x.leastLimit());
+        check.is("21: no fault by it", 0, () -> x.planFault());
+        check.is("19: nor stations", 2, () -> x.whole(9));
+        check.is("16: nor force", 0, () -> x.station(7, 1) + x.station(7, 0));
+        x.dropOperation(1);
+        check.is("22: no bend any more", 1, () -> x.planned(NONE));
+        x.addPunch(0, 1, 1, 1);
+        check.is("22: a punch where the bend was", 2, () -> x.planned(NONE));
+        x.begin(6, 4);
+        check.is("22: none in another die", 0, () -> x.planned(NONE));
+        check.is("23: nor there", 1, () -> x.leastLimit());
+        check.is("21: nor there", 0, () -> x.planFault());
+        check.is("19: nor there", 0, () -> x.whole(9));
+        check.is("16: nor there", 0, () -> x.station(0, 1) + x.station(0, 0) + x.station(1, 1));
+        x.addBend(5, 1, 1);
+        check.is("22: one of the new die", 1, () -> x.planned(NONE));
+        check.is("9: without a station", NONE, () -> x.operation(0, 6));
+    }
+
+    private static void promise23AtItsEnds() {
+        StripDie x = new StripDie();
+        x.begin(10, 6);
+        x.addPunch(0, 0, 10, 6);
+        check.is("23: the greatest punch", 32, () -> x.leastLimit());
+        for (int o = 1; o < 5; o++) {
+            x.addPunch(0, 0, 10, 6);
+        }
+        check.is("23: five of them, each alone", 32, () -> x.leastLimit());
+        x.set(1, 3);
+        x.addBend(9, 5, 1);
+        check.is("23: five punches, four stations", NONE, () -> x.leastLimit());
+        x.set(1, 2);
+        check.is("23: five stations for them", 32, () -> x.leastLimit());
+        x.begin(10, 6);
+        for (int o = 0; o < 6; o++) {
+            x.addBend(o, o, 1);
+        }
+        check.is("23: six bends of one", 1, () -> x.leastLimit());
+        x.set(0, 1);
+        check.is("23: with a limit of one", 6, () -> x.planned(NONE));
+        x.set(0, 6);
+        check.is("23: with a limit of six", 1, () -> x.planned(NONE));
+        x.set(0, 5);
+        check.is("23: with a limit of five", 2, () -> x.planned(NONE));
+        check.is("23: the last one is the one more", 1, () -> x.planned(5));
     }
 }

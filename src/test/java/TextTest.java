@@ -1,3 +1,7 @@
+import java.math.BigInteger;
+import java.util.ArrayList;
+import java.util.List;
+
 /** Promises 27 to 31: command texts, undo and digest. */
 public final class TextTest {
     private static final Class<IllegalArgumentException> ARGUMENT = IllegalArgumentException.class;
@@ -19,6 +23,8 @@ public final class TextTest {
         promise30Text();
         promise31();
         promise31Literal();
+        promise31Twice();
+        promise31Wraps();
         check.end();
     }
 
@@ -82,41 +88,55 @@ public final class TextTest {
     }
 
     private static void promise29Commands() {
+        asByCalls(x -> 0, "pitch 7 5; part 1 1 3 2; link 4 1 1 1;", 3, TextTest::layOut);
+        asByCalls(TextTest::layOut, "punch 0 1 1 3; punch 005 2  2   1 ;bend 1 2 3;", 3, TextTest::addThree);
+        asByCalls(TextTest::withThree, "place 1 7;pilot 6;stroke 3;", 3, TextTest::placeAndStroke);
+        asByCalls(TextTest::withStrokes, "plan;stroke 50;", 2, x -> x.usePlan() + strokes(x, 50));
+        StripDie y = new StripDie();
+        withStrokes(y);
+        run(y, "plan;stroke 50;", 2);
+        check.is("29: strokes", 53, () -> y.whole(11));
+        check.is("29: four states", 3, () -> y.undo());
+    }
+
+    private static long layOut(StripDie x) {
+        return x.begin(7, 5) + x.mark(1, 1, 3, 2, 1) + x.mark(4, 1, 1, 1, 2);
+    }
+
+    private static long addThree(StripDie x) {
+        return x.addPunch(0, 1, 1, 3) + x.addPunch(5, 2, 2, 1) + x.addBend(1, 2, 3);
+    }
+
+    private static long withThree(StripDie x) {
+        return layOut(x) + addThree(x);
+    }
+
+    private static long placeAndStroke(StripDie x) {
+        return x.setStation(1, 7) + x.setPilot(6, true) + strokes(x, 3);
+    }
+
+    private static long withStrokes(StripDie x) {
+        return withThree(x) + placeAndStroke(x);
+    }
+
+    private static long strokes(StripDie x, int strokes) {
+        long answers = 0;
+        for (int i = 0; i < strokes; i++) {
+            answers += x.stroke();
+        }
+        return answers;
+    }
+
+    /** The text does what the calls do: all values but those of the text and of the undo stack are the same. */
+    private static void asByCalls(Scenes.Act before, String text, long commands, Scenes.Act calls) {
         StripDie x = new StripDie();
         StripDie y = new StripDie();
-        run(x, "pitch 7 5; part 1 1 3 2; link 4 1 1 1;", 3);
-        y.begin(7, 5);
-        y.mark(1, 1, 3, 2, 1);
-        y.mark(4, 1, 1, 1, 2);
-        same(x, y);
-        run(x, "punch 0 1 1 3; punch 005 2  2   1 ;bend 1 2 3;", 3);
-        y.addPunch(0, 1, 1, 3);
-        y.addPunch(5, 2, 2, 1);
-        y.addBend(1, 2, 3);
-        same(x, y);
-        run(x, "place 1 7;pilot 6;stroke 3;", 3);
-        y.setStation(1, 7);
-        y.setPilot(6, true);
-        strokes(y, 3);
-        same(x, y);
-        run(x, "plan;stroke 50;", 2);
-        y.usePlan();
-        strokes(y, 50);
-        same(x, y);
-        check.is("29: strokes", 53, () -> x.whole(11));
-        check.is("29: four states", 3, () -> x.undo());
-    }
-
-    private static void strokes(StripDie x, int strokes) {
-        for (int i = 0; i < strokes; i++) {
-            x.stroke();
-        }
-    }
-
-    /** All values but those of the text and of the undo stack are the same. */
-    private static void same(StripDie x, StripDie y) {
+        before.on(x);
+        before.on(y);
+        run(x, text, commands);
+        calls.on(y);
         x.clearCommands();
-        check.is("29: the same as by calls", literal(y, 0), () -> literal(x, 0));
+        check.is("29: the same as by calls <" + text + ">", literal(y, 0), () -> literal(x, 0));
     }
 
     private static void promise29StopsAtExceptions() {
@@ -173,7 +193,6 @@ public final class TextTest {
     }
 
     private static void promise29Faults() {
-        StripDie x = new StripDie();
         String[] texts = {
             ";", "1", "P", "Plan;", " _", "\t", "plan;;", "plan;1",
             "pla", "pla;", "plans;", "plan stroke 1;", "planX;", "plan1;", "plan", "plan ", "plan 1;",
@@ -198,24 +217,22 @@ public final class TextTest {
         };
         check.is("29: faults", texts.length, faults.length);
         for (int i = 0; i < texts.length; i++) {
+            StripDie x = new StripDie();
+            x.setPilot(0, true);
             if (faults[i] == NONE) {
                 run(x, texts[i], 1);
             } else {
-                x.setPilot(0, false);
-                long digest = with(x, texts[i]).digest();
+                type(x, texts[i]);
+                long digest = x.digest();
                 run(x, texts[i], -10 - faults[i]);
                 check.is("29: nothing is done <" + texts[i] + ">", digest, () -> x.digest());
             }
         }
+        StripDie x = new StripDie();
         type(x, "plan;".repeat(29) + "plan ");
         check.is("29: a full text that ends too soon", -160, () -> x.runCommands());
         type(x, "plan;".repeat(29) + "strok");
         check.is("29: a full text with a wrong word", -155, () -> x.runCommands());
-    }
-
-    private static StripDie with(StripDie x, String text) {
-        type(x, text);
-        return x;
     }
 
     private static void promise29Undo() {
@@ -283,10 +300,12 @@ public final class TextTest {
     }
 
     private static void promise31() {
+        StripDie y = new StripDie();
+        check.is("31: a new object", literal(y, 0), () -> y.digest());
+        y.begin(5, 4);
+        check.is("31: begun", literal(y, 1), () -> y.digest());
         StripDie x = new StripDie();
-        check.is("31: a new object", literal(x, 0), () -> x.digest());
         x.begin(5, 4);
-        check.is("31: begun", literal(x, 1), () -> x.digest());
         x.mark(1, 1, 3, 3, 1);
         x.mark(2, 2, 1, 1, 2);
         x.addPunch(0, 1, 1, 3);
@@ -297,8 +316,9 @@ public final class TextTest {
         x.stroke();
         x.stroke();
         x.type('x');
-        check.is("31: with all", literal(x, 4), () -> x.digest());
-        check.is("31: twice the same", literal(x, 4), () -> x.digest());
+        long due = literal(x, 4);
+        check.is("31: with all", due, () -> x.digest());
+        check.is("31: twice the same", due, () -> x.digest());
         x.undo();
         check.is("31: undone", literal(x, 3), () -> x.digest());
     }
@@ -315,6 +335,63 @@ public final class TextTest {
             x.undo();
         }
         check.is("31: a known one", -6875053768279979476L, () -> x.digest());
+    }
+
+    /** Two parts in a pitch: the last three values differ from each other. */
+    private static void promise31Twice() {
+        StripDie x = new StripDie();
+        x.mark(0, 1, 1, 1, 1);
+        check.is("31: two parts fit", 1, () -> x.fitsTwice());
+        check.is("31: scrap of one and of two", 958_916, () -> 1000L * x.scrap(false) + x.scrap(true));
+        check.is("31: with them", literal(x, 1), () -> x.digest());
+        x.mark(1, 2, 1, 1, 1);
+        check.is("31: they do not fit", literal(x, 2), () -> x.digest());
+        x.mark(0, 1, 3, 2, 1);
+        x.setCarrier(2);
+        x.setPilot(7, true);
+        check.is("31: four states", literal(x, 4), () -> x.digest());
+    }
+
+    /** The sum with no bound, of which a long keeps the lowest 64 bits. */
+    private static void promise31Wraps() {
+        StripDie x = Scenes.full();
+        List<Long> values = valuesOf(x, 4);
+        BigInteger h = BigInteger.valueOf(12958);
+        for (long v : values) {
+            h = h.multiply(BigInteger.valueOf(31)).add(BigInteger.valueOf(v));
+        }
+        check.is("31: far above a long", 1, h.bitLength() > 600 ? 1 : 0);
+        check.is("31: wrapped", h.longValue(), () -> x.digest());
+    }
+
+    private static List<Long> valuesOf(StripDie x, long states) {
+        List<Long> values = new ArrayList<>();
+        values.add(states);
+        for (int what = 0; what <= 16; what++) {
+            values.add((long) x.whole(what));
+        }
+        for (int what = 0; what <= 5; what++) {
+            values.add(x.cellSet(what));
+        }
+        for (int o = 0; o < 6; o++) {
+            for (int what = 0; what <= 7; what++) {
+                values.add((long) x.operation(o, what));
+            }
+        }
+        for (int s = 0; s <= 7; s++) {
+            for (int what = 0; what <= 3; what++) {
+                values.add((long) x.station(s, what));
+            }
+            for (int what = 0; what <= 3; what++) {
+                values.add((long) x.pitch(s, what));
+            }
+            values.add(x.left(s));
+        }
+        int[] last = {x.dieFault(), x.planFault(), x.planned(NONE), x.fitsTwice(), x.scrap(false), x.scrap(true)};
+        for (int v : last) {
+            values.add((long) v);
+        }
+        return values;
     }
 
     private static long literal(StripDie x, int states) {
