@@ -21,6 +21,7 @@ public final class DieTest {
         promise7();
         promise8();
         promise8WithBends();
+        promise8InAllStations();
         check.end();
     }
 
@@ -338,5 +339,35 @@ public final class DieTest {
         x.undo();
         check.is("8: bends are back", 0b11, () -> x.pitch(1, 0));
         check.is("8: no bends at the station before", 0, () -> x.pitch(0, 0));
+    }
+
+    /** Six bends at station 0, and a pitch at each station: all of them forget the one that is dropped. */
+    private static void promise8InAllStations() {
+        for (int dropped = 0; dropped < 6; dropped++) {
+            StripDie x = new StripDie();
+            x.addPunch(0, 1, 1, 1);
+            for (int o = 1; o < 6; o++) {
+                x.addBend(o, 1, 1);
+                x.setStation(o, 0);
+            }
+            x.setStation(0, 7);
+            for (int i = 0; i < 8; i++) {
+                x.stroke();
+            }
+            check.is("8: five are left", 5, x.dropOperation(dropped));
+            int due = dropped == 0 ? 0b11111 : 0b11110;
+            int stations = dropped == 0 ? 1 : 8;
+            check.is("8: stations without " + dropped, stations, () -> x.whole(9));
+            for (int s = 0; s <= 7; s++) {
+                final int station = s;
+                check.is("8: without " + dropped + " at " + s, due, () -> x.pitch(station, 0));
+            }
+            check.is("8: all pitches stay", 8, () -> x.whole(10));
+            x.undo();
+            for (int s = 0; s <= 7; s++) {
+                final int station = s;
+                check.is("8: again with " + dropped + " at " + s, 0b111110, () -> x.pitch(station, 0));
+            }
+        }
     }
 }

@@ -21,6 +21,7 @@ public final class FaultOrderTest {
         stationsOfBends();
         touchingAtCorners();
         partlyPlaced();
+        droppedCountNoMore();
         check.end();
     }
 
@@ -245,5 +246,39 @@ public final class FaultOrderTest {
         x.setStation(5, NONE);
         check.is("21: the last one without a station", 1, () -> x.planFault());
         check.is("19: stations of the others", 5, () -> x.whole(9));
+    }
+
+    /** An operation that was dropped makes no fault any more, whichever it was. */
+    private static void droppedCountNoMore() {
+        for (int dropped = 0; dropped <= 1; dropped++) {
+            StripDie x = new StripDie();
+            x.addPunch(2, 2, 1, 1);
+            x.addPunch(2, 2, 1, 1);
+            x.setStation(0, 3);
+            x.setStation(1, 3);
+            check.is("21: two that touch", 3, () -> x.planFault());
+            x.dropOperation(dropped);
+            check.is("21: without " + dropped, 0, () -> x.planFault());
+            check.is("15: none touches the other", 0, () -> x.operation(0, 7));
+            x.undo();
+            x.set(0, 7);
+            check.is("21: too much force", 2, () -> x.planFault());
+            x.dropOperation(dropped);
+            check.is("21: less force without " + dropped, 0, () -> x.planFault());
+
+            StripDie y = new StripDie();
+            y.addPunch(2, 2, 1, 1);
+            y.addBend(2, 2, 1);
+            y.setStation(0, 3);
+            y.setStation(1, 2);
+            check.is("21: a bend too early", 4, () -> y.planFault());
+            y.dropOperation(dropped);
+            check.is("21: not early without " + dropped, 0, () -> y.planFault());
+            y.undo();
+            y.setStation(dropped, NONE);
+            check.is("21: one without a station", 1, () -> y.planFault());
+            y.dropOperation(dropped);
+            check.is("21: it is gone " + dropped, 0, () -> y.planFault());
+        }
     }
 }
